@@ -98,6 +98,8 @@ public final class P06ConstantTest {
         check.faultIs(x, 8, 39, 8, 39);
         x.constant(0, 5, 39, 21, 0);
         check.needIs(x, 0, 10, 21);
+        x.constant(0, 7, 5, 0, 10);
+        check.needIs(x, 0, 11, 21);
     }
 
     private static void productsAndQuotients(Check check) {

@@ -4,6 +4,8 @@ public final class P16AlikeTest {
         fortyCalls(check);
         leavesLoadersAlone(check);
         readBeforeOrAfterStore(check);
+        faultsAfterOtherValues(check);
+        firstOneMovesToo(check);
         faultsByThemselves(check);
         check.end();
     }
@@ -59,26 +61,65 @@ public final class P16AlikeTest {
     }
 
     /** Five constants read an item that the last one stores: those that come after it see another one. */
+    private static ConstantStarts readersAndStore() {
+        ConstantStarts x = new ConstantStarts();
+        x.module(1);
+        x.constant(0, 0, 0, 0, 0);
+        for (int i = 1; i <= 5; i++) {
+            x.constant(0, 4, 0, 0, 0);
+        }
+        x.constant(0, 0, 9, 0, 0);
+        x.constant(0, 11, 6, 0, 0);
+        return x;
+    }
+
+    private static int readersAfterStore(int seed) {
+        int[] order = order(8, seed);
+        int after = 0;
+        for (int i = 1; i <= 5; i++) {
+            if (placeOf(order, i) > placeOf(order, 7)) {
+                after++;
+            }
+        }
+        return after;
+    }
+
     private static void readBeforeOrAfterStore(Check check) {
         int[] seeds = {0, 1, 2, 3, -1, 77, Integer.MIN_VALUE, Integer.MAX_VALUE, 123456789};
+        ConstantStarts used = readersAndStore();
         for (int seed : seeds) {
+            int want = readersAfterStore(seed);
+            ConstantStarts fresh = readersAndStore();
+            check.due("alike(" + seed + ")", fresh.alike(seed), want);
+            check.due("alike(" + seed + ") again", fresh.alike(seed), want);
+            check.due("alike(" + seed + ") after others", used.alike(seed), want);
+        }
+    }
+
+    /** What came out before a fault is no part of it. */
+    private static void faultsAfterOtherValues(Check check) {
+        for (int seed = 0; seed < 20; seed++) {
             ConstantStarts x = new ConstantStarts();
-            x.module(1);
-            x.constant(0, 0, 0, 0, 0);
-            for (int i = 1; i <= 5; i++) {
-                x.constant(0, 4, 0, 0, 0);
-            }
-            x.constant(0, 0, 9, 0, 0);
-            x.constant(0, 11, 6, 0, 0);
-            int[] order = order(8, seed);
-            int want = 0;
-            for (int i = 1; i <= 5; i++) {
-                if (placeOf(order, i) > placeOf(order, 7)) {
-                    want++;
-                }
-            }
-            check.due("alike(" + seed + ")", x.alike(seed), want);
-            check.due("alike(" + seed + ") again", x.alike(seed), want);
+            x.module(0);
+            x.constant(0, 0, 5, 0, 0);
+            x.constant(0, 6, 1, 0, 0);
+            x.constant(0, 0, 6, 0, 0);
+            x.constant(0, 1, 1, 1, 0);
+            check.due("alike(" + seed + ") of values and faults", x.alike(seed), 0);
+        }
+    }
+
+    /** Constant 0 tells the state of a module that constant 1 starts; each call makes the order anew. */
+    private static void firstOneMovesToo(Check check) {
+        for (int seed = 0; seed < 20; seed++) {
+            ConstantStarts x = new ConstantStarts();
+            x.module(0);
+            x.module(0);
+            x.constant(0, 8, 1, 0, 0);
+            x.constant(1, 0, 3, 0, 0);
+            int[] order = order(2, seed);
+            check.due("alike(" + seed + ") of a state", x.alike(seed), order[0] == 1 ? 1 : 0);
+            check.due("alike(" + (seed + 1) + ") next", x.alike(seed + 1), order(2, seed + 1)[0] == 1 ? 1 : 0);
         }
     }
 
