@@ -18,7 +18,8 @@ public final class FaceTest {
 
     public static void main(String[] args) {
         Class<?> type = ConstantStarts.class;
-        CHECK.holds("public and final", Modifier.isPublic(type.getModifiers()) && Modifier.isFinal(type.getModifiers()));
+        int modifiers = type.getModifiers();
+        CHECK.holds("public and final", Modifier.isPublic(modifiers) && Modifier.isFinal(modifiers));
         CHECK.holds("no package", type.getPackageName().isEmpty());
         CHECK.due("BAD", ConstantStarts.BAD, -1);
         CHECK.due("FULL", ConstantStarts.FULL, -2);

@@ -35,7 +35,8 @@ public final class LanguageTest {
     }
 
     private static void libraryCalls(String code) {
-        Matcher call = Pattern.compile("\\b(System|Math|Integer|Long|Arrays|String|List|ArrayList)\\.\\w+").matcher(code);
+        Pattern library = Pattern.compile("\\b(System|Math|Integer|Long|Arrays|String|List|ArrayList)\\.\\w+");
+        Matcher call = library.matcher(code);
         while (call.find()) {
             CHECK.holds(call.group() + " is known here", LIBRARY.contains(call.group()));
         }
