@@ -15,6 +15,7 @@ public final class DeepChainTest {
     private void run() {
         chainThatEnds();
         chainThatIsARing();
+        chainOfProducts();
         startsBetweenWorkings();
         ringOfForty();
         finished = true;
@@ -63,6 +64,23 @@ public final class DeepChainTest {
         }
         check.due("start(1, 0)", x.start(1, 0), -15);
         check.faultIs(x, 5, 0, 4, 12);
+    }
+
+    /** A product stands open in one method more than a sum: no chain has more calls open at once. */
+    private void chainOfProducts() {
+        ConstantStarts x = new ConstantStarts();
+        for (int i = 0; i < 12; i++) {
+            x.module(0);
+            x.deed(i, 0, i + 1);
+        }
+        for (int i = 0; i < 40; i++) {
+            x.constant(Math.min(i, 11), i == 11 ? 5 : 2, i == 11 ? 12 : (i + 1) % 40, i == 11 ? 3 : 11, 0);
+        }
+        check.needIs(x, 0, 0, 3 * 3 * 3 * 3 * 3 * 3 * 3 * 3 * 3 * 3 * 3 * 3);
+        check.due("told(2)", x.told(2), 104);
+        check.due("told(3)", x.told(3), 40);
+        check.needIs(x, 0, 10, 9);
+        check.needIs(x, 0, 39, 1594323);
     }
 
     /** Each start works a constant that starts the next module. */

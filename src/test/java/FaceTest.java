@@ -4,6 +4,7 @@ import java.lang.reflect.Method;
 import java.lang.reflect.Modifier;
 import java.util.Arrays;
 import java.util.Map;
+import java.util.Set;
 import java.util.TreeMap;
 
 /** The public face is the document's and no more, and members keep to LANGUAGE.md, rules 1, 5 and 11. */
@@ -13,6 +14,9 @@ public final class FaceTest {
         Map.entry("constant", 5), Map.entry("need", 2), Map.entry("value", 0), Map.entry("start", 2),
         Map.entry("fault", 1), Map.entry("state", 2), Map.entry("kept", 2), Map.entry("row", 3),
         Map.entry("trace", 2), Map.entry("forget", 1), Map.entry("alike", 1), Map.entry("told", 1)));
+
+    private static final Set<Class<?>> STATIC_TYPES = Set.of(int.class, long.class, boolean.class, char.class,
+        String.class, int[].class, long[].class, char[].class, byte[].class);
 
     private static final Check CHECK = new Check("face");
 
@@ -74,6 +78,7 @@ public final class FaceTest {
             open += Modifier.isPrivate(field.getModifiers()) || field.isSynthetic() ? 0 : 1;
             held += isStatic ? 0 : 1;
             CHECK.holds(field + " is final if it is static", !isStatic || Modifier.isFinal(field.getModifiers()));
+            CHECK.holds(field + " may be static", !isStatic || STATIC_TYPES.contains(field.getType()));
         }
         CHECK.due("fields that are not private", open, type == ConstantStarts.class ? 3 : 0);
         CHECK.holds("twenty fields at most", held <= 20);

@@ -1,11 +1,12 @@
 import java.io.IOException;
 import java.nio.file.Files;
 import java.nio.file.Path;
+import java.util.Arrays;
 import java.util.List;
 import java.util.regex.Matcher;
 import java.util.regex.Pattern;
 
-/** What can be read from the text of the class: words that LANGUAGE.md rules out, and lengths. */
+/** What can be read from the text of the class: words that LANGUAGE.md rules out, lengths, what makes objects. */
 public final class LanguageTest {
     private static final Path MAIN = Path.of("src/main/java/ConstantStarts.java");
     private static final List<String> RULED_OUT = List.of(
@@ -55,8 +56,16 @@ public final class LanguageTest {
                 }
                 methods++;
                 CHECK.holds("short: " + lines[i].trim(), end - i <= 60);
+                makesNothing(String.join("\n", Arrays.copyOfRange(lines, i, end)));
             }
         }
         CHECK.holds("methods were found", methods > 30);
+    }
+
+    /** Constructors alone make objects, so that a run of calls makes no more than its constructors do. */
+    private static void makesNothing(String method) {
+        boolean isConstructor = method.trim().matches("(?s)(public|private) \\w+\\(.*");
+        boolean makes = Pattern.compile("\\bnew\\b|\\bclone\\b|\\bcopyOf").matcher(method).find();
+        CHECK.holds("makes no object: " + method, isConstructor || !makes);
     }
 }
